@@ -9,9 +9,10 @@ public final class HistogramStairs {
     private static final int MOST_STATES = 8;
     private static final int IMAGES = 2;
 
-    // All rows are made here once: a call makes none, however often it is used.
+    // All rows are made once: but for the first keep() of an image, a call makes no object.
     private final Columns columns = new Columns();
     private final History history = new History();
+    // An image that keeps nothing is null.
     private final Columns[] images = new Columns[IMAGES];
     private final Water water = new Water();
     private final Rectangles rectangles = new Rectangles();
@@ -111,8 +112,8 @@ public final class HistogramStairs {
             case 3: return pourAll();
             case 4: return countPools();
             case 5: return countRectangles();
-            case 6: return columns.countSeenFrom(0, 1);
-            case 7: return columns.countSeenFrom(columns.size - 1, -1);
+            case 6: return columns.countSeen(true);
+            case 7: return columns.countSeen(false);
             case 8: return greatestTreeDepth();
             case 9: return columns.countRises();
             case 10: return painter.countStrokes(columns);
@@ -127,10 +128,10 @@ public final class HistogramStairs {
         }
         switch (what) {
             case 0: return columns.heights[i];
-            case 1: return columns.nearestSmaller(i, -1);
-            case 2: return columns.nearestSmaller(i, 1);
-            case 3: return columns.nearestGreater(i, -1);
-            case 4: return columns.nearestGreater(i, 1);
+            case 1: return columns.smallerToLeft(i);
+            case 2: return columns.smallerToRight(i);
+            case 3: return columns.greaterToLeft(i);
+            case 4: return columns.greaterToRight(i);
             case 5: return depthOfWater(i);
             case 6: return treeParent(i);
             case 7: return treeDepth(i);
@@ -185,9 +186,12 @@ public final class HistogramStairs {
         if (what < 0 || what > 2) {
             return BAD;
         }
-        int best = NONE;
-        int left = NONE;
-        int right = NONE;
+        if (columns.size < 2) {
+            return NONE;
+        }
+        int best = -1;
+        int left = 0;
+        int right = 0;
         for (int i = 0; i < columns.size; i++) {
             for (int j = i + 1; j < columns.size; j++) {
                 int product = Math.min(columns.heights[i], columns.heights[j]) * (j - i);
@@ -242,8 +246,8 @@ public final class HistogramStairs {
         if (columns.size == 0) {
             return STATE;
         }
-        int best = NONE;
-        int most = NONE;
+        int best = 0;
+        int most = -1;
         for (int i = 0; i < columns.size; i++) {
             int stays = waterWithDam(i, d);
             if (stays > most) {
@@ -288,10 +292,12 @@ public final class HistogramStairs {
         if (!isImage(i)) {
             return BAD;
         }
-        if (images[i] == null) {
-            images[i] = new Columns();
+        Columns image = images[i];
+        if (image == null) {
+            image = new Columns();
+            images[i] = image;
         }
-        images[i].copyFrom(columns);
+        image.copyFrom(columns);
         return columns.size;
     }
 
@@ -299,11 +305,12 @@ public final class HistogramStairs {
         if (!isImage(i)) {
             return BAD;
         }
-        if (images[i] == null) {
+        Columns image = images[i];
+        if (image == null) {
             return STATE;
         }
         history.remember(columns);
-        columns.copyFrom(images[i]);
+        columns.copyFrom(image);
         return columns.size;
     }
 
@@ -311,10 +318,11 @@ public final class HistogramStairs {
         if (!isImage(i)) {
             return BAD;
         }
-        if (images[i] == null) {
+        Columns image = images[i];
+        if (image == null) {
             return STATE;
         }
-        return columns.firstDifference(images[i]);
+        return columns.firstDifference(image);
     }
 
     // ---- what the methods above share
@@ -333,7 +341,7 @@ public final class HistogramStairs {
 
     private int countPools() {
         pourAll();
-        return water.countPools(columns.size);
+        return water.poolCount(columns.size);
     }
 
     private int depthOfWater(int i) {
@@ -493,11 +501,12 @@ public final class HistogramStairs {
             return size == 0 ? 0 : heights[lowestGreatest(heights, 0, size - 1)];
         }
 
-        /** How many columns are greater than all that lie before them, coming from a column. */
-        int countSeenFrom(int start, int step) {
+        /** How many columns are greater than all that lie before them, for one who looks from an end. */
+        int countSeen(boolean fromLeft) {
             int count = 0;
             int greatest = -1;
-            for (int i = start; i >= 0 && i < size; i += step) {
+            for (int passed = 0; passed < size; passed++) {
+                int i = fromLeft ? passed : size - 1 - passed;
                 if (heights[i] > greatest) {
                     greatest = heights[i];
                     count++;
@@ -517,8 +526,8 @@ public final class HistogramStairs {
             return rises;
         }
 
-        int nearestSmaller(int i, int step) {
-            for (int j = i + step; j >= 0 && j < size; j += step) {
+        int smallerToLeft(int i) {
+            for (int j = i - 1; j >= 0; j--) {
                 if (heights[j] < heights[i]) {
                     return j;
                 }
@@ -526,8 +535,26 @@ public final class HistogramStairs {
             return NONE;
         }
 
-        int nearestGreater(int i, int step) {
-            for (int j = i + step; j >= 0 && j < size; j += step) {
+        int smallerToRight(int i) {
+            for (int j = i + 1; j < size; j++) {
+                if (heights[j] < heights[i]) {
+                    return j;
+                }
+            }
+            return NONE;
+        }
+
+        int greaterToLeft(int i) {
+            for (int j = i - 1; j >= 0; j--) {
+                if (heights[j] > heights[i]) {
+                    return j;
+                }
+            }
+            return NONE;
+        }
+
+        int greaterToRight(int i) {
+            for (int j = i + 1; j < size; j++) {
                 if (heights[j] > heights[i]) {
                     return j;
                 }
@@ -536,8 +563,8 @@ public final class HistogramStairs {
         }
 
         int span(int i) {
-            int left = nearestSmaller(i, -1);
-            int right = nearestSmaller(i, 1);
+            int left = smallerToLeft(i);
+            int right = smallerToRight(i);
             int first = left == NONE ? 0 : left + 1;
             int last = right == NONE ? size - 1 : right - 1;
             return last - first + 1;
@@ -545,10 +572,10 @@ public final class HistogramStairs {
 
         int stairLength(int i) {
             int length = 1;
-            int foot = heights[i];
+            int step = i;
             for (int j = i - 1; j >= 0; j--) {
-                if (heights[j] < foot) {
-                    foot = heights[j];
+                if (heights[j] < heights[step]) {
+                    step = j;
                     length++;
                 }
             }
@@ -556,11 +583,15 @@ public final class HistogramStairs {
         }
 
         int stairStep(int i, int k) {
+            int walked = 0;
             int step = i;
-            for (int walked = 0; walked < k && step != NONE; walked++) {
-                step = nearestSmaller(step, -1);
+            for (int j = i - 1; j >= 0 && walked < k; j--) {
+                if (heights[j] < heights[step]) {
+                    step = j;
+                    walked++;
+                }
             }
-            return step;
+            return walked == k ? step : NONE;
         }
 
         int firstDifference(Columns other) {
@@ -630,7 +661,7 @@ public final class HistogramStairs {
             return sum;
         }
 
-        int countPools(int size) {
+        int poolCount(int size) {
             int count = 0;
             for (int i = 0; i < size; i++) {
                 if (startsPool(i)) {
