@@ -23,6 +23,7 @@ public final class PromisesTest {
         promise10Undo();
         promise11Told();
         promise11Strokes();
+        columnsThatAreGone();
         promise12ColumnNeighbours();
         promise12ColumnTree();
         promise13Stair();
@@ -271,6 +272,9 @@ public final class PromisesTest {
         for (int what = 0; what < want.length; what++) {
             due("told(" + what + ")", x.told(what), want[what]);
         }
+        HistogramStairs rising = of(1, 2);
+        due("told(2), the last one the greatest", rising.told(2), 2);
+        due("told(5), the last one an owner", rising.told(5), 2);
         HistogramStairs zero = of(0);
         due("told(5) of a column of 0", zero.told(5), 0);
         due("told(6) of a column of 0", zero.told(6), 1);
@@ -308,8 +312,35 @@ public final class PromisesTest {
         due("told(10) of " + row, x.told(10), all);
     }
 
+    /** What stood behind the last column before it became the last one must not be seen any more. */
+    private static void columnsThatAreGone() {
+        promise = 3;
+        HistogramStairs x = of(1, 4, 2, 0, 3, 9, 9);
+        due("told(3)", x.told(3), 2 + 4 + 1);
+        x.remove(6);
+        x.remove(5);
+        int[] want = {5, 10, 4, 4, 1, 4, 2, 2, 3, 7, 4, 8};
+        for (int what = 0; what < want.length; what++) {
+            due("told(" + what + ") without the last two", x.told(what), want[what]);
+        }
+        due("drained(2)", x.drained(2), 2);
+        due("column(4, 4)", x.column(4, 4), NONE);
+        due("column(1, 2)", x.column(1, 2), 2);
+        due("column(0, 8)", x.column(0, 8), 3);
+        due("container(0)", x.container(0), 9);
+        due("dam(1, 1)", x.dam(1, 1), 6);
+        due("freeze()", x.freeze(), 4);
+        columns(x, 1, 4, 3, 3, 3);
+        x.clear();
+        due("told(3) without columns", x.told(3), 0);
+        due("told(10) without columns", x.told(10), 0);
+        due("sumOfMinima() without columns", x.sumOfMinima(), 0);
+    }
+
     private static void promise12ColumnNeighbours() {
         promise = 12;
+        due("column(1, 3)", of(5, 1).column(1, 3), 0);
+        due("column(0, 4)", of(1, 5).column(0, 4), 1);
         HistogramStairs x = of(3, 5, 3, 1, 3, 3, 4);
         answers(x, 0, 3, 5, 3, 1, 3, 3, 4);
         answers(x, 1, NONE, 0, NONE, NONE, 3, 3, 5);
@@ -475,6 +506,7 @@ public final class PromisesTest {
             due("pool(0, " + what + ")", x.pool(0, what), BAD);
             due("pool(9, " + what + "): BAD comes before NONE", x.pool(9, what), BAD);
         }
+        pool(of(3, 1, 2, 3), 0, 1, 2, 3, 3, 2);
         pool(of(1, 2, 3, 2, 1), 0, NONE, NONE, NONE, NONE, NONE);
         pool(new HistogramStairs(), 0, NONE, NONE, NONE, NONE, NONE);
     }
