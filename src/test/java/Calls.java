@@ -63,6 +63,22 @@ public final class Calls {
         }
     }
 
+    /** Makes a call that is written as in Java. */
+    static int on(HistogramStairs x, String text) {
+        int open = text.indexOf('(');
+        int method = java.util.Arrays.asList(NAMES).indexOf(text.substring(0, open));
+        String list = text.substring(open + 1, text.length() - 1);
+        String[] given = list.isEmpty() ? new String[0] : list.split(", ");
+        if (method < 0 || given.length != ARGUMENTS[method]) {
+            throw new IllegalArgumentException("there is no call like " + text);
+        }
+        int[] arguments = new int[3];
+        for (int i = 0; i < given.length; i++) {
+            arguments[i] = Integer.parseInt(given[i]);
+        }
+        return on(x, method, arguments[0], arguments[1], arguments[2]);
+    }
+
     static String text(int method, int a, int b, int c) {
         int[] given = {a, b, c};
         StringBuilder text = new StringBuilder(NAMES[method]).append('(');
