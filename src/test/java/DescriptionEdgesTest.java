@@ -57,10 +57,19 @@ public final class DescriptionEdgesTest extends Sentences {
     }
 
     private void constants() {
-        due("BAD", BAD, -1);
-        due("STATE", STATE, -2);
-        due("FULL", FULL, -3);
-        due("NONE", NONE, -9);
+        due("BAD", constant("BAD"), -1);
+        due("STATE", constant("STATE"), -2);
+        due("FULL", constant("FULL"), -3);
+        due("NONE", constant("NONE"), -9);
+    }
+
+    /** As the class has it now; by its name alone, it would be as it was when the test was compiled. */
+    private static int constant(String name) {
+        try {
+            return HistogramStairs.class.getField(name).getInt(null);
+        } catch (ReflectiveOperationException missing) {
+            throw new IllegalStateException(missing);
+        }
     }
 
     /** Each argument of each method at both ends of its range, and beyond them; the others are fit. */
@@ -153,7 +162,16 @@ public final class DescriptionEdgesTest extends Sentences {
                 "keep(-1)", "keep(2)", "back(-1)", "back(2)", "parting(-1)", "parting(2)");
         unmoved(() -> flat(40, 7), FULL, "insert(0, 1)", "insert(40, 1)");
         unmoved(() -> of(1, 0, 2), STATE, "back(0)", "back(1)", "parting(0)", "parting(1)");
+        unmoved(() -> oneImage(0), STATE, "back(1)", "parting(1)");
+        unmoved(() -> oneImage(1), STATE, "back(0)", "parting(0)");
         unmoved(this::nothingToUndo, STATE, "undo()", "dam(1, 0)");
+    }
+
+    private HistogramStairs oneImage(int i) {
+        HistogramStairs x = of(1, 0, 2);
+        call(x, "keep(" + i + ")");
+        call(x, "set(1, 7)");
+        return x;
     }
 
     /** Eight states, all different, and two images that differ from them. */

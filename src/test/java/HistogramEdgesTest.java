@@ -149,6 +149,12 @@ public final class HistogramEdgesTest extends Sentences {
         due(flat(40, 40), "told(10)", 40);
         due(flat(40, 41), "told(10)", 40);
         due(of(1, 50, 1, 50, 1), "told(10)", 3);
+        due(of(1, 3), "told(10)", 2);
+        HistogramStairs x = flat(5, 2);
+        due(x, "told(10)", 2);
+        due(x, "told(10)", 2);
+        call(x, "raise(0, 4, -50)");
+        due(x, "told(10)", 0);
         // Three rows along all of them and one column more, or all four columns: as many.
         due(of(3, 3, 9, 3), "told(10)", 4);
         HistogramStairs comb = of();
@@ -210,6 +216,9 @@ public final class HistogramEdgesTest extends Sentences {
         HistogramStairs x = of(2, 1);
         call(x, "remove(1)");
         due(x, "column(0, 2)", NONE);
+        x = of(1, 2);
+        call(x, "remove(1)");
+        due(x, "column(0, 4)", NONE);
     }
 
     private void columnDepth() {

@@ -1,7 +1,9 @@
 import java.io.IOException;
 import java.nio.file.Files;
 import java.nio.file.Path;
+import java.util.ArrayList;
 import java.util.IdentityHashMap;
+import java.util.List;
 import java.util.Map;
 import java.util.function.Supplier;
 
@@ -23,8 +25,9 @@ abstract class Sentences {
     private final Check check = new Check(getClass().getName(), 1000);
     private final String[] sections = readSections();
     private final Map<HistogramStairs, Integer> callsOf = new IdentityHashMap<>();
+    private final List<String> known = new ArrayList<>();
+    private final List<String> broken = new ArrayList<>();
     private String sentence = "";
-    private int sentences = 0;
 
     /** Makes the test of each sentence known by says(). */
     abstract void tests();
@@ -34,25 +37,35 @@ abstract class Sentences {
             System.out.println("NOTE: no " + DOCUMENT + " here, so the sentences are not looked up in it");
         }
         tests();
-        System.out.println(getClass().getName() + ": " + sentences + " sentences");
+        System.out.println(getClass().getName() + ": " + known.size() + " sentences, " + broken.size() + " broken");
         check.end();
+    }
+
+    /** For Breaks: all sentences, then those that do not hold, each as its promise, a colon and its words. */
+    final List<List<String>> runForBreaks() {
+        tests();
+        return List.of(known, broken);
     }
 
     /** The words stand in this promise of the document, and the test fails if the class breaks them. */
     final void says(int promise, String words, Runnable test) {
-        sentences++;
+        known.add(promise + ": " + words);
         sentence = (promise == DESCRIPTION ? "description" : "promise " + promise) + ", '" + words + "': ";
         callsOf.clear();
         if (sections != null) {
             check.yes(sentence + "the document says so", sections[promise].contains(words));
         }
-        int before = check.checkedSoFar();
+        int checkedBefore = check.checkedSoFar();
+        int wrongBefore = check.wrongSoFar();
         try {
             test.run();
         } catch (RuntimeException thrown) {
             check.yes(sentence + "no call throws, but there was " + thrown, false);
         }
-        check.yes(sentence + "the test asks something", check.checkedSoFar() > before);
+        check.yes(sentence + "the test asks something", check.checkedSoFar() > checkedBefore);
+        if (check.wrongSoFar() > wrongBefore) {
+            broken.add(promise + ": " + words);
+        }
     }
 
     // ---- calls
@@ -158,17 +171,22 @@ abstract class Sentences {
         return text(heights);
     }
 
-    /** All that an object holds: the histogram, the states, the images. Telling it undoes all, so it is told once. */
+    /**
+     * All that an object holds: the histogram, the states, the images. It is told once, since telling it undoes all. No
+     * undo() or back() is made that would be refused, or else what a refused call changes would not be seen.
+     */
     private String everything(HistogramStairs x) {
         StringBuilder all = new StringBuilder(heightsOf(x));
-        all.append(" undoable ").append(call(x, "told(11)"));
-        int left = call(x, "undo()");
-        for (int i = 0; i < 10 && left >= 0; i++) {
-            all.append(", ").append(left).append(' ').append(heightsOf(x));
-            left = call(x, "undo()");
+        int undoable = call(x, "told(11)");
+        all.append(" undoable ").append(undoable);
+        for (int i = 0; i < undoable && i < 10; i++) {
+            all.append(", ").append(call(x, "undo()")).append(' ').append(heightsOf(x));
         }
         for (int i = 0; i < 2; i++) {
-            all.append(", image ").append(call(x, "back(" + i + ")")).append(' ').append(heightsOf(x));
+            all.append(", image ").append(i);
+            if (call(x, "parting(" + i + ")") != STATE) {
+                all.append(' ').append(call(x, "back(" + i + ")")).append(' ').append(heightsOf(x));
+            }
         }
         return all.toString();
     }

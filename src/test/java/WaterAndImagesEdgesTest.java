@@ -48,6 +48,12 @@ public final class WaterAndImagesEdgesTest extends Sentences {
         HistogramStairs x = of(1, 0, 1);
         call(x, "freeze()");
         due(x, "pool(0, 0)", NONE);
+        // Where water has stood before, but no column is any more, there is no pool.
+        x = of(3, 0, 0, 3);
+        due(x, "pool(0, 1)", 2);
+        call(x, "remove(3)");
+        call(x, "remove(2)");
+        due(x, "pool(0, 0)", NONE);
     }
 
     private void poolBad() {
