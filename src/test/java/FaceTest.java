@@ -11,6 +11,8 @@ import java.util.Collections;
 import java.util.HashSet;
 import java.util.List;
 import java.util.Set;
+import java.util.regex.Matcher;
+import java.util.regex.Pattern;
 
 /** The class shows the document's face and no more, and its source has nothing that LANGUAGE.md rules out by a word. */
 public final class FaceTest {
@@ -25,12 +27,20 @@ public final class FaceTest {
         "throw", "throws", "try", "catch", "finally", "synchronized", "assert", "package", "protected", "volatile",
         "native", "Object", "Override", "Random", "Thread", "Exception", "System.out", "System.nanoTime"};
 
+    /** Of the library that LANGUAGE.md leaves, what the class uses; another call that it allows may be added here. */
+    private static final Set<String> LIBRARY = Set.of("Arrays.fill", "Math.max", "Math.min", "System.arraycopy");
+
+    private static final int MOST_PARAMETERS = 7;
+    private static final int MOST_FIELDS = 20;
+    private static final int MOST_LINES = 60;
+
     public static void main(String[] args) throws IOException {
         Check check = new Check("FaceTest");
         checkClass(check);
         checkMethods(check);
         checkConstants(check);
         checkInnerClasses(check);
+        checkSizes(check);
         checkSource(check);
         check.end();
     }
@@ -103,8 +113,30 @@ public final class FaceTest {
         check.yes("at most twelve classes", HistogramStairs.class.getDeclaredClasses().length < 12);
     }
 
+    private static void checkSizes(Check check) {
+        List<Class<?>> classes = new ArrayList<>(Arrays.asList(HistogramStairs.class.getDeclaredClasses()));
+        classes.add(HistogramStairs.class);
+        for (Class<?> one : classes) {
+            int fields = 0;
+            for (Field field : one.getDeclaredFields()) {
+                if (Modifier.isStatic(field.getModifiers())) {
+                    check.yes(field + " is a constant number",
+                            Modifier.isFinal(field.getModifiers()) && field.getType() == int.class);
+                } else {
+                    fields++;
+                }
+            }
+            check.yes(one + " has few fields", fields <= MOST_FIELDS);
+            for (Method method : one.getDeclaredMethods()) {
+                check.yes(method + " takes few parameters", method.getParameterCount() <= MOST_PARAMETERS);
+            }
+        }
+    }
+
     private static void checkSource(Check check) throws IOException {
         String source = withoutComments(Files.readString(Path.of(SOURCE)));
+        checkLibrary(check, source);
+        checkLengths(check, source);
         for (String word : FORBIDDEN_WORDS) {
             String pattern = "(?s).*\\b" + word.replace(".", "\\.") + "\\b.*";
             check.yes("source is without " + word, !source.matches(pattern));
@@ -114,6 +146,25 @@ public final class FaceTest {
         for (String line : source.split("\n")) {
             check.yes(line, !line.startsWith("import") || line.equals("import java.util.Arrays;"));
         }
+    }
+
+    private static void checkLibrary(Check check, String source) {
+        Matcher call = Pattern.compile("\\b([A-Z][a-z]\\w*\\.\\w+)\\(").matcher(source);
+        while (call.find()) {
+            check.yes(call.group(1) + " is of the library that is left", LIBRARY.contains(call.group(1)));
+        }
+    }
+
+    /** A method ends with a brace that stands as far to the right as its first line. */
+    private static void checkLengths(Check check, String source) {
+        Matcher method = Pattern.compile("(?m)^( {4}| {8})[^ }\n][^\n]*\\) \\{\n(?s:.*?)^\\1\\}$").matcher(source);
+        int methods = 0;
+        while (method.find()) {
+            methods++;
+            long lines = method.group().lines().count();
+            check.yes("few lines: " + method.group().strip().lines().findFirst().orElse(""), lines <= MOST_LINES);
+        }
+        check.yes("methods were found", methods > METHODS.length);
     }
 
     private static String withoutComments(String source) {
